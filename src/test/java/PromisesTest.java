@@ -81,8 +81,9 @@ public final class PromisesTest {
         TanRow x = Checks.told("guest on 3;bore brown 7;colonel on 5");
         x.set(0, 2, 25);
         x.set(2, 3, 26);
+        x.set(0, 4, 1);
         x.set(1, 4, 9);
-        x.set(2, 4, 4);
+        x.set(2, 4, 3);
         due("4 who sits", x.now(3), 5);
         due("4 who is even, sitting or not", x.now(4), 3);
         due("4 brown of all", x.now(5), 45 + 14 + 46);
@@ -139,6 +140,7 @@ public final class PromisesTest {
         due("6 nobody right", x.of(1, 8), -1);
         due("6 nobody right of chair 9", x.of(2, 8), -1);
         due("6 left of chair 9", x.of(2, 7), 3);
+        due("6 right of chair 8", x.of(3, 8), 2);
         due("6 one that sits on none, chair 0 taken", x.of(5, 8), -1);
         due("6 a lover with one neighbour", x.of(4, 5), 1);
         x.sit(4, 2);
@@ -146,6 +148,10 @@ public final class PromisesTest {
         x.sit(0, 3);
         due("6 a lover with both", x.of(4, 5), 0);
         due("6 chair", x.of(4, 1), 2);
+        x.sit(1, 7);
+        x.sit(0, 1);
+        x.sit(1, 3);
+        due("6 a lover with both, the other way round", x.of(4, 5), 0);
         beyond("6 person -1", x.of(-1, 0));
         beyond("6 person 8", x.of(8, 0));
         beyond("6 what -1", x.of(0, -1));
@@ -200,6 +206,7 @@ public final class PromisesTest {
         due("10 moves", x.sit(0, 9), 0);
         due("10 where it sat is free", x.sit(1, 0), -1);
         due("10 taken", x.sit(1, 9), Checks.STATE);
+        due("10 the first chair is taken", x.sit(0, 0), Checks.STATE);
         due("10 its own", x.sit(1, 0), 0);
         due("10 goes", x.sit(1, -1), 0);
         due("10 goes again", x.sit(1, -1), -1);
@@ -435,6 +442,14 @@ public final class PromisesTest {
         TanRow x = Checks.told("sun 0 9;guest on 0;guest on 5;guest on 6;bore on 7;guest");
         due("18 the one between", x.change(0, 1), 2);
         due("18 the one that a bore is then beside", x.change(3, 1), 2);
+        TanRow beside = Checks.told("sun 0 9;bore on 0;guest on 1;guest on 2;guest on 9;invalid on 5;guest;guest;guest");
+        due("18 those that change are beside each other", beside.change(1, 1), 2);
+        due("18 one gets what the other had", beside.change(2, 1), 1);
+        due("18 from afar", beside.change(3, 2), 1);
+        TanRow bores = Checks.told("sun 0 9;bore on 4;colonel on 0;guest on 9;bore on 3;bore on 5");
+        due("18 who takes most in one's chair", bores.change(0, 1), 2);
+        TanRow pair = Checks.told("sun 0 9;guest on 4;bore on 5;guest on 9");
+        due("18 they still give each other", pair.change(0, 1), 1);
         due("18 nothing changes", x.of(0, 1), 0);
         due("18 nor for the other", x.of(2, 1), 6);
         due("18 sits on none", x.change(4, 1), Checks.STATE);
@@ -480,6 +495,10 @@ public final class PromisesTest {
         due("20 nothing changes", y.of(3, 1), 3);
         y.sit(4, -1);
         due("20 of several the least", y.send(1), 2);
+        TanRow all = Checks.told("sun 0 9;colonel brown 200 on 0;guest on 1;guest on 2;guest on 3;guest on 4;guest on 5");
+        all.person(0);
+        all.person(0);
+        due("20 the first of all", all.send(60), 0);
         y.sun(0, 0);
         due("20 nobody burns", y.send(1), 1);
         due("20 in four hours", y.send(4), 2);
@@ -586,6 +605,7 @@ public final class PromisesTest {
         due("26 no finding", x.status(-1), 0);
         Checks.fed(x, "sun0007 0000000000000000000000009");
         due("26 noughts ahead", x.esplanade(), 1);
+        due("26 people stay", x.count(0), 8);
         due("26 sun of 7", x.sun(7, 9), 9);
     }
 
@@ -596,14 +616,14 @@ public final class PromisesTest {
             "Guest", "guestbrown 3", "guest guest", "guest\tbrown 3", "sun", "sun 1", "sun 10 3", "sun 1 10",
             "sun 12", "sun12", "sun a 1", "sun 1 2 3", "sun 1;2", "goes", "goes 0", "goes 0;guest", "guest;goes 1",
             "guest;;guest", "guest on 2;bore on 2", "guest;#", "5", "brown 3", "on 3", "guest on 3 ;", "guest brown -3",
-            "guest brown 12x", "guest{", "`", "/", ":", "guest on 3;goes 0;sun 3 3;guest on 3 x"};
+            "guest brown 12x", "guestz", "xuest", "guest{", "`", "/", ":", "guest on 3;goes 0;sun 3 3;guest on 3 x"};
         int[] places = {0, 3, 0, 6, 7, 11, 8, 9,
             9, 12, 12, 12,
             12, 12, 6, 11, 0,
             0, 0, 6, 5, 3, 5, 4, 6,
             4, 3, 4, 8, 5, 4, 5, 5, 11,
             6, 19, 6, 0, 0, 0, 12, 12,
-            14, 5, 0, 0, 0, 37};
+            14, 0, 0, 5, 0, 0, 0, 37};
         for (int i = 0; i < texts.length; i++) {
             TanRow x = Checks.fed(new TanRow(), texts[i]);
             due("26 fault of \"" + texts[i] + "\"", x.esplanade(), -1 - places[i]);
@@ -613,12 +633,37 @@ public final class PromisesTest {
             due("26 tape of \"" + texts[i] + "\" is empty", x.count(1), 0);
             due("26 no finding by \"" + texts[i] + "\"", x.status(-1), 0);
         }
+        whatStoodBehind();
         TanRow full = Checks.told("fake;fake;fake;fake;fake;fake;fake;fake;goes 7");
         Checks.fed(full, "sun 0 9; bore brown 201");
         due("26 a ninth", full.esplanade(), -10);
         due("26 no sun came", full.now(2), 0);
         Checks.fed(full, "goes 8");
         due("26 goes a ninth", full.esplanade(), -6);
+    }
+
+    /** A text is read to its own end, whatever stood on the tape before it. */
+    private static void whatStoodBehind() {
+        TanRow x = Checks.fed(new TanRow(), "guests");
+        due("26 a letter more", x.esplanade(), -1);
+        Checks.fed(x, "guest");
+        due("26 a letter less", x.esplanade(), 1);
+        Checks.fed(x, "sun 1 22");
+        due("26 a digit more", x.esplanade(), -7);
+        Checks.fed(x, "sun 1 2");
+        due("26 a digit less", x.esplanade(), 1);
+        Checks.fed(x, "bore brown    ");
+        due("26 blanks behind", x.esplanade(), -15);
+        Checks.fed(x, "bore brown");
+        due("26 no blanks behind", x.esplanade(), -11);
+        x.set(0, 2, 77);
+        x.person(5);
+        x.hours(3);
+        Checks.fed(x, "bore");
+        due("26 one more", x.esplanade(), 1);
+        due("26 what there is stays", x.of(0, 2), 77);
+        due("26 who is there stays", x.count(0), 3);
+        due("26 the hour stays", x.now(0), 3);
     }
 
     private static void sheetCalls() {
@@ -750,6 +795,9 @@ public final class PromisesTest {
         due("31 nothing changes", x.now(0), 0);
         x.sheet(2, 64, 0);
         due("31 none long", x.book(2, 0), 0);
+        x.sheet(2, 64, 40);
+        due("31 all", x.book(2, 1), 40);
+        due("31 the last", x.write(2, 39, 0), x.on(1, 39, 0) + x.on(1, 39, 1));
     }
 
     private static void promise32() {

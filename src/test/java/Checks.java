@@ -24,9 +24,13 @@ final class Checks {
         }
     }
 
-    /** Feeds a text byte by byte, since most texts are no multiple of four. */
+    /** Feeds a text by fours and then byte by byte: an object has but 512 calls. */
     static TanRow fed(TanRow x, String text) {
-        for (int i = 0; i < text.length(); i++) {
+        int fours = text.length() / 4 * 4;
+        for (int i = 0; i < fours; i += 4) {
+            x.feed(text.charAt(i) << 24 | text.charAt(i + 1) << 16 | text.charAt(i + 2) << 8 | text.charAt(i + 3), 4);
+        }
+        for (int i = fours; i < text.length(); i++) {
             x.feed(text.charAt(i), 1);
         }
         return x;

@@ -93,6 +93,7 @@ public final class ActsBoundsTest {
             due("on none", y.of(p, 1), -1);
         }
         due("no ninth", y.person(0), Checks.FULL);
+        anewAfterUndo();
         sentence("Of one: what 0 KIND, 1 CHAIR (-1), 2 LEFT, 3 RIGHT, 4 BURNT, 5 FADES now, 6 BURNS, "
             + "7 who is to its LEFT, 8 to its RIGHT (-1: nobody, or it sits ON none). BEYOND.");
         Bounds.range("person", 0, 4, (x, v) -> x.of(v, 0));
@@ -104,6 +105,24 @@ public final class ActsBoundsTest {
         due("on none, right", none.of(0, 8), -1);
         due("left of the first chair", none.of(1, 7), -1);
         due("right of the last chair", none.of(2, 8), -1);
+    }
+
+    /** One more is new, though another of its number was there and is gone. */
+    private static void anewAfterUndo() {
+        TanRow x = new TanRow();
+        x.image();
+        x.person(5);
+        x.sit(0, 4);
+        x.set(0, 2, 99);
+        x.set(0, 3, 99);
+        x.set(0, 4, 99);
+        x.undo();
+        due("its number again", x.person(1), 0);
+        int[] first = {1, -1, 20, 20, 0};
+        for (int what = 0; what < 5; what++) {
+            due("what " + what + " of it", x.of(0, what), first[what]);
+        }
+        due("its chair is free", x.chair(4), -1);
     }
 
     private static void promise7() {
@@ -208,6 +227,7 @@ public final class ActsBoundsTest {
         due("99900 and 99", late.hours(99), 0);
         due("the last", late.now(0), 99999);
         due("99999 and 1", late.hours(1), Checks.STATE);
+        due("it is counted", late.status(4), 2);
         due("BEYOND is asked first", late.hours(101), Checks.BEYOND);
     }
 
@@ -316,6 +336,7 @@ public final class ActsBoundsTest {
         Bounds.range("person", 0, 4, (r, v) -> r.where(v, 1));
         Bounds.range("n", 1, 60, (r, v) -> r.where(0, v));
         due("of all ten the least", Checks.told("guest on 9").where(0, 60), 0);
+        due("though it is not brown at all", Checks.told("guest brown 0 on 9").where(0, 60), 0);
         due("of two the least", Checks.told("sun 0 9;guest;bore on 5").where(0, 1), 4);
         TanRow tenth = sunInTheTenth(20);
         tenth.sit(1, 9);
@@ -336,6 +357,23 @@ public final class ActsBoundsTest {
         due("the least that sits", y.change(2, 60), 1);
         y.sit(3, 9);
         due("the last", y.change(1, 1), 3);
+        due("though neither is brown at all", Checks.told("guest brown 0 on 0;guest brown 0 on 9").change(0, 1), 1);
+        Bounds.taken("with eight there", Bounds.full(), x -> x.change(0, 60));
+        // The bore on the first chair gives to whoever comes to chair 1: 9 to a guest, 4 of it to the colonel.
+        due("who takes most there", Checks.told("sun 0 9;bore brown 0 on 0;guest on 1;guest on 5;colonel brown 21 on 8")
+            .change(1, 1), 2);
+        due("what is given to one in the other's chair", Checks.told(
+            "sun 0 9;guest on 0;guest on 5;bore brown 0 on 6;colonel brown 22 on 9").change(0, 1), 1);
+        TanRow pair = Checks.told("sun 0 9;guest on 4;colonel on 9;guest on 5");
+        pair.set(1, 3, 21);
+        due("two beside each other still give each other", pair.change(0, 1), 2);
+        TanRow dark = sunInTheTenth(20);
+        dark.person(5);
+        dark.sit(2, 5);
+        dark.set(2, 2, 23);
+        dark.set(2, 3, 23);
+        due("the fake, who is browner for two hours", dark.change(1, 2), 2);
+        due("as brown as the bore by the third: the least", dark.change(1, 3), 0);
         sentence("STATE: it sits ON none.");
         Bounds.refused("others sit", Checks.STATE, x -> x.change(3, 1));
         Bounds.refusedIn(() -> Checks.told("guest"), "alone", Checks.STATE, x -> x.change(0, 60));
@@ -362,6 +400,9 @@ public final class ActsBoundsTest {
         due("the first of two", Checks.told("sun 0 9;invalid on 9;bore on 8").send(1), 0);
         due("the last", Checks.told("sun 0 9;invalid on 0;invalid on 2;bore on 1").send(1), 2);
         due("one alone", Checks.told("guest;guest on 9").send(60), 1);
+        due("who goes is beside nobody, on the first chair neither",
+            Checks.told("sun 0 9;invalid on 4;invalid on 6;colonel brown 200 on 5;invalid on 1").send(1), 2);
+        Bounds.taken("with eight there", Bounds.full(), x -> x.send(60));
         sentence("NONE: nobody sits.");
         Bounds.refusedIn(Bounds::made, "nobody is there", Checks.NONE, x -> x.send(60));
         Bounds.refusedIn(() -> Checks.told("guest;bore"), "all on none", Checks.NONE, x -> x.send(1));

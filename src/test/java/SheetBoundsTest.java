@@ -261,6 +261,11 @@ public final class SheetBoundsTest {
         x.write(1, 39, (1L << 32) + x.on(0, 39, 0) + x.on(0, 39, 1));
         due("the last is so in its lowest bits only", x.read(1, 0, 1), 0);
         due("nothing changes", x.of(0, 0) + x.of(1, 0), 0);
+        TanRow beside = Checks.told("sun 0 9;guest on 0;guest brown 0 on 1");
+        beside.sheet(0, 16, 2);
+        beside.write(0, 0, 40);
+        beside.write(0, 1, 49);
+        due("given 9, which only a bore gives, to a guest", beside.read(0, 0, 1), 1);
         sentence("make it just so. BEYOND: no such sheet. MISSING. BEYOND: person, other (also one and the same).");
         noSuchSheet((r, s) -> r.read(s, 0, 1));
         Bounds.refused("missing", Checks.MISSING, r -> r.read(3, 0, 1));

@@ -217,6 +217,9 @@ public final class TermsBoundsTest {
         x.sit(2, 1);
         due("1 more", x.of(0, 8), 2);
         due("1 less", x.of(2, 7), 0);
+        x.sit(2, 8);
+        due("the last chair is 1 more than 8", x.of(2, 8), 1);
+        due("8 is 1 less than the last chair", x.of(1, 7), 2);
         x.sit(0, -1);
         due("one on none has nobody on chair 0 to its right", x.of(0, 8), -1);
         x.sit(2, 0);
@@ -332,6 +335,13 @@ public final class TermsBoundsTest {
         fadesAre(Checks.told("lover on 9;guest brown 0 on 8"), 1, 1, 1);
         fadesAre(Checks.told("lover on 5;guest brown 0 on 4;guest brown 0 on 6"), 0, 0, 0);
         fadesAre(Checks.told("lover on 0;guest brown 0 on 9;guest brown 0 on 1"), 1, 1, 1);
+        TanRow between = Checks.told("guest on 4;guest on 6;lover on 5");
+        due("person 0 to its left", between.of(2, 5), 0);
+        between.sit(0, 9);
+        due("person 0 gone", between.of(2, 5), 1);
+        between.sit(1, 4);
+        between.sit(0, 6);
+        due("person 0 to its right", between.of(2, 5), 0);
         sentence("FAKE: 2.");
         fadesAre(Checks.told("fake on 0"), 2, 2, 2);
     }

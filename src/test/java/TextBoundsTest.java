@@ -83,6 +83,8 @@ public final class TextBoundsTest {
         fault("guest{", 5);
         fault("zguest", 0);
         fault("guesta", 0);
+        fault("guestz", 0);
+        fault("guest z", 6);
         sentence("NUMBERS (digits, 999 at most)");
         fault("guest brown 999", 12);
         fault("guest brown 1000", 12);
@@ -134,6 +136,8 @@ public final class TextBoundsTest {
             due(names[kind] + " is on none", x.of(5, 1), -1);
             fault(names[kind].substring(0, names[kind].length() - 1), 0);
             fault(names[kind] + "s", 0);
+            fault("z" + names[kind].substring(1), 0);
+            fault(names[kind].substring(0, names[kind].length() - 1) + "z", 0);
         }
         sentence("perhaps brown and a NUMBER (0 to 200: LEFT and RIGHT)");
         for (int brown : new int[] {0, 200}) {
